@@ -1166,14 +1166,12 @@ public final class RugPunch {
             canvas.putLoop(cell, colour, height);
         }
 
-        boolean tryUnpick(int cell) {
+        void tryUnpick(int cell) {
             int colour = canvas.loopAt(cell);
-            if (colour == NONE) {
-                return false;
+            if (colour != NONE) {
+                yarn.addWaste(colour, yarnForLoop(canvas.heightAt(cell)));
+                canvas.clearCell(cell);
             }
-            yarn.addWaste(colour, yarnForLoop(canvas.heightAt(cell)));
-            canvas.clearCell(cell);
-            return true;
         }
 
         int shearTo(int most) {

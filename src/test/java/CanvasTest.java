@@ -68,6 +68,7 @@ public final class CanvasTest {
         CHECK.same("planOf(3)", x.planOf(3), -1);
         CHECK.same("one cell", x.fillPlan(143, 143, 0), 1);
         CHECK.same("the whole canvas", x.fillPlan(132, 11, 3), 144);
+        CHECK.same("the last colour", x.fillPlan(0, 143, 4), 144);
         CHECK.same("no plan", x.fillPlan(0, 143, -1), 144);
         CHECK.noCell("fillPlan(144, 0, 9)", () -> x.fillPlan(144, 0, 9));
         CHECK.noCell("fillPlan(0, 144, 9)", () -> x.fillPlan(0, 144, 9));

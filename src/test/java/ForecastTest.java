@@ -131,6 +131,9 @@ public final class ForecastTest {
         CHECK.same("yarnBy(1)", x.yarnBy(1), 20 + 11 * 12 + 4 + 8 + 20);
         CHECK.same("yarnBy(2)", x.yarnBy(2), 20 + 3 * 12 + 10 + 20);
         CHECK.same("yarnBy(0)", x.yarnBy(0), 0);
+        CHECK.same("needleBy() alone", forecast(0), 3);
+        CHECK.same("loopsBy() alone", forecast(1), 3);
+        CHECK.same("yarnBy(1) alone", forecast(2), 56);
         x.runText();
         CHECK.same("loops by runText()", (long) (x.density() * 144f + 0.5f), 14);
         CHECK.same("needle() by runText()", x.needle(), 20);
@@ -144,6 +147,13 @@ public final class ForecastTest {
         Check.write(x, "m0");
         CHECK.same("loopsBy() with a motif", x.loopsBy(), 2);
         CHECK.same("yarnBy(3) with a motif", x.yarnBy(3), 44);
+    }
+
+    /** One of the three on a new object, with none of the others ahead of it. */
+    private static int forecast(int which) {
+        RugPunch x = new RugPunch();
+        Check.write(x, "c1s03");
+        return which == 0 ? x.needleBy() : which == 1 ? x.loopsBy() : x.yarnBy(1);
     }
 
     private static void changesNothing() {

@@ -153,6 +153,13 @@ public final class MotifTest {
         CHECK.same("the text with m3", broken(x, "m3"), 15);
         Check.store(x, 0, "l");
         CHECK.same("a motif in another one is the one of now", x.run(2), 0);
+        RugPunch deep = new RugPunch();
+        Check.store(deep, 0, "s01");
+        Check.store(deep, 1, "m0");
+        Check.store(deep, 2, "m1");
+        Check.store(deep, 3, "m2");
+        CHECK.same("four motifs in one another", broken(deep, "c0m32(m3)"), 0);
+        CHECK.same("needle() by them", deep.needle(), 3);
     }
 
     /** Orders behind the four hundredth are passed over; groups and motifs count as one, each time. */

@@ -13,8 +13,33 @@ public final class SimulateTest {
                 CHECK.same("simulate(" + seed + ", " + m + ")", x.simulate(seed, m), byCalls(seed, m));
             }
         }
+        for (long seed = 1000; seed < 1600; seed++) {
+            CHECK.same("simulate(" + seed + ", 60)", x.simulate(seed, 60), byCalls(seed, 60));
+        }
         CHECK.same("nothing has changed", x.undo(), 4);
+        skippedModuloHundred();
         CHECK.finish("SimulateTest");
+    }
+
+    private static void skippedModuloHundred() {
+        RugPunch x = new RugPunch();
+        Check.write(x, "lrlrlr9(s01lrlr)s02");
+        for (int row = 0; row < 12; row++) {
+            x.place(12 * row, 0);
+            x.thread(row % 5);
+            x.runText();
+            x.cut();
+        }
+        CHECK.same("skipped()", x.skipped(), 120);
+        CHECK.same("simulate(1, 1)", x.simulate(1, 1), 12000 + 200 + headingBy(1));
+        x.unpick(10);
+        CHECK.same("simulate(1, 1) with a loop less", x.simulate(1, 1), 11000 + 200 + headingBy(1));
+    }
+
+    /** The heading after one turn with a needle that is not threaded. */
+    private static int headingBy(long seed) {
+        int kind = (int) ((seed * 6364136223846793005L + 1442695040888963407L) >>> 33) % 32;
+        return kind >= 17 && kind <= 19 ? 3 : kind >= 20 && kind <= 22 ? 1 : 0;
     }
 
     private static RugPunch threadedRug() {

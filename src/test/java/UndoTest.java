@@ -12,6 +12,7 @@ public final class UndoTest {
         notActions();
         fourteen();
         motifsAreState();
+        knotsAreState();
         CHECK.finish("UndoTest");
     }
 
@@ -119,5 +120,22 @@ public final class UndoTest {
         x.undo();
         CHECK.same("no motif", x.motifLength(1), 0);
         CHECK.noState("run(1)", () -> x.run(1));
+    }
+
+    private static void knotsAreState() {
+        RugPunch x = new RugPunch();
+        x.thread(0);
+        Check.write(x, "9(eeeeeeeeee)eeeeeee");
+        x.runText();
+        CHECK.same("untilKnot(0)", x.untilKnot(0), 10);
+        x.sew(1);
+        CHECK.same("knots()", x.knots(), 1);
+        x.save(0);
+        x.undo();
+        CHECK.same("knots() taken back", x.knots(), 0);
+        CHECK.same("loopsBy() in between", x.loopsBy(), 0);
+        CHECK.same("knots() by asking", x.knots(), 0);
+        x.restore(0);
+        CHECK.same("knots() restored", x.knots(), 1);
     }
 }
