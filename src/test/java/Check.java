@@ -5,6 +5,15 @@ final class Check {
         void make();
     }
 
+    /** Calls on an object. */
+    interface Calls {
+        void on(RugPunch x);
+    }
+
+    static final Class<?> NO_INDEX = IndexOutOfBoundsException.class;
+    static final Class<?> NO_ARGUMENT = IllegalArgumentException.class;
+    static final Class<?> NO_STATE = IllegalStateException.class;
+
     private int passed;
     private int failed;
 
@@ -43,6 +52,16 @@ final class Check {
         note(got == due, what + " threw " + got + ", due is " + due);
     }
 
+    /** A call that throws changes nothing: all that can be told later is as on a twin without the call. */
+    void changesNothing(String what, Calls start, Class<?> due, Calls call) {
+        RugPunch x = new RugPunch();
+        RugPunch twin = new RugPunch();
+        start.on(x);
+        start.on(twin);
+        refused(what, () -> call.on(x), due);
+        note(everything(x).equals(everything(twin)), what + " was refused and changed something");
+    }
+
     private void note(boolean good, String otherwise) {
         if (good) {
             passed++;
@@ -70,6 +89,82 @@ final class Check {
     static void store(RugPunch x, int motif, String text) {
         write(x, text);
         x.store(motif);
+    }
+
+    /** All that can be told of an object, the text, what undo brings back and the save slots among it; it is used up. */
+    static String everything(RugPunch x) {
+        StringBuilder all = new StringBuilder(picture(x));
+        all.append(x.errorPosition()).append(' ');
+        if (x.errorPosition() == RugPunch.NONE) {
+            all.append(x.needleBy()).append(' ').append(x.loopsBy()).append(' ');
+        }
+        all.append(x.clearText()).append(' ');
+        for (int step = 0; step < 20; step++) {
+            try {
+                all.append(x.undo()).append(picture(x));
+            } catch (IllegalStateException e) {
+                break;
+            }
+        }
+        for (int slot = 0; slot < 2; slot++) {
+            try {
+                all.append(x.restore(slot)).append(picture(x));
+            } catch (IllegalStateException e) {
+                all.append("nothing saved");
+            }
+        }
+        return all.toString();
+    }
+
+    /**
+     * Brings the cone of a colour to just so many millimetres, up to 7980 and on a new cone; the colour is
+     * threaded then, the tension is 0, no knot has come, and the text is empty.
+     */
+    static void leave(RugPunch x, int colour, int millimetres) {
+        if (millimetres % 10 != 0) {
+            x.wind(colour, millimetres % 10);
+        }
+        x.thread(colour);
+        write(x, "9(eeeeeeeeee)");
+        while (x.coneOf(colour) - 900 >= millimetres) {
+            x.runText();
+        }
+        write(x, "e");
+        while (x.coneOf(colour) > millimetres) {
+            x.runText();
+        }
+        x.clearText();
+    }
+
+    /** Something of everything: a plan, loops, a skipped cell, a motif, a save slot, ten remembered states, a text. */
+    static void busy(RugPunch x) {
+        x.fillPlan(0, 38, 1);
+        store(x, 0, "s02r");
+        x.thread(1);
+        x.setHeight(7);
+        x.sew(6);
+        x.save(0);
+        x.turnRight();
+        x.unpick(2);
+        x.ease();
+        x.wind(3, 9999);
+        x.wind(4, 7);
+        write(x, "c2s03m0j01");
+    }
+
+    /** A text of 120 characters that is a motif. */
+    static void fullText(RugPunch x) {
+        write(x, "s01".repeat(39) + "lrx");
+    }
+
+    /** Brings the tension from 0 to so much: a jump over one cell for 1, a turn for 2; the needle is threaded. */
+    static void tighten(RugPunch x, int tension) {
+        if (tension % 2 != 0) {
+            x.jump(1);
+        }
+        for (int turn = 0; turn < tension / 2; turn++) {
+            x.turnLeft();
+        }
     }
 
     /** All that the asking calls tell of the state, but for the text. */
