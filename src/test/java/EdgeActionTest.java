@@ -30,8 +30,11 @@ public final class EdgeActionTest {
         p49Run();
         p50RunText();
         p50BrokenOrders();
+        p50EachOrder();
+        p50MotifsInMotifs();
         p50FourHundredOrders();
         p51Undo();
+        p51EverythingComesBack();
         p51FourteenStates();
         CHECK.finish("EdgeActionTest");
     }
@@ -520,6 +523,69 @@ public final class EdgeActionTest {
         CHECK.same("m0 to m3 without motifs", broken(w, "m0m1m2m3"), 4);
     }
 
+    private static void p50EachOrder() {
+        RugPunch x = new RugPunch();
+        CHECK.same("h9", broken(x, "h9"), 0);
+        CHECK.same("height() by h9", x.height(), 9);
+        CHECK.same("h1", broken(x, "h1"), 0);
+        CHECK.same("height() by h1", x.height(), 1);
+        CHECK.same("l", broken(x, "l"), 0);
+        CHECK.same("heading() by l from 0", x.heading(), 3);
+        CHECK.same("r", broken(x, "r"), 0);
+        CHECK.same("heading() by r from 3", x.heading(), 0);
+        CHECK.same("c0", broken(x, "c0"), 0);
+        CHECK.same("threaded() by c0", x.threaded(), 0);
+        CHECK.same("c4", broken(x, "c4"), 0);
+        CHECK.same("threaded() by c4", x.threaded(), 4);
+        CHECK.same("coneOf(0) by c0c4", x.coneOf(0), 7960);
+        CHECK.same("s01", broken(x, "s01"), 0);
+        CHECK.same("needle() by s01", x.needle(), 1);
+        CHECK.same("j10", broken(x, "j10"), 0);
+        CHECK.same("needle() by j10", x.needle(), 11);
+        CHECK.same("tension() by s01j10", x.tension(), 11);
+        CHECK.same("e", broken(x, "e"), 0);
+        CHECK.same("tension() by e", x.tension(), 0);
+        CHECK.same("wasteOf(4) by e", x.wasteOf(4), 10);
+        CHECK.same("x", broken(x, "x"), 0);
+        CHECK.same("threaded() by x", x.threaded(), -1);
+        CHECK.same("2(r)", broken(x, "2(r)"), 0);
+        CHECK.same("heading() by 2(r)", x.heading(), 2);
+        CHECK.same("9(r)", broken(x, "9(r)"), 0);
+        CHECK.same("heading() by 9(r)", x.heading(), 3);
+        CHECK.same("3(j01r), two of them over the border", broken(x, "3(j01r)"), 2);
+        CHECK.same("needle() by 3(j01r)", x.needle(), 23);
+        CHECK.same("undo() of a run", x.undo(), 12);
+        CHECK.same("needle() of before", x.needle(), 11);
+        CHECK.same("heading() of before", x.heading(), 3);
+    }
+
+    private static void p50MotifsInMotifs() {
+        RugPunch x = new RugPunch();
+        Check.store(x, 0, "rx");
+        Check.store(x, 1, "m0m0x");
+        Check.store(x, 2, "2(m1)x");
+        Check.store(x, 3, "m22(m2m0)m1");
+        CHECK.same("run(0)", x.run(0), 1);
+        CHECK.same("heading() by one r", x.heading(), 1);
+        CHECK.same("run(1)", x.run(1), 3);
+        CHECK.same("heading() by two more", x.heading(), 3);
+        CHECK.same("run(2)", x.run(2), 7);
+        CHECK.same("heading() by four more", x.heading(), 3);
+        CHECK.same("run(3)", x.run(3), 7 + 2 * 8 + 3);
+        CHECK.same("heading() by sixteen more", x.heading(), 3);
+        CHECK.same("the text with the deepest", broken(x, "2(m3)r"), 52);
+        CHECK.same("heading() by thirty-three more", x.heading(), 0);
+        RugPunch gap = new RugPunch();
+        Check.store(gap, 3, "m1m0");
+        CHECK.same("a motif with motifs that are not stored", gap.run(3), 2);
+        Check.store(gap, 0, "l");
+        CHECK.same("one of them is stored now", gap.run(3), 1);
+        CHECK.same("heading() by it", gap.heading(), 3);
+        gap.undo();
+        gap.undo();
+        CHECK.same("and is not any more", gap.run(3), 2);
+    }
+
     /** 399, 400 and 401 orders, of which the last one is a turn. */
     private static void p50FourHundredOrders() {
         for (int before = 397; before <= 401; before++) {
@@ -573,6 +639,67 @@ public final class EdgeActionTest {
         x.turnLeft();
         CHECK.same("undo() goes back to what was undone to", x.undo(), 1);
         CHECK.same("heading() then", x.heading(), 1);
+    }
+
+    private static void p51EverythingComesBack() {
+        Check.Calls[] actions = {
+            x -> x.setPlan(143, 0), x -> x.fillPlan(0, 143, 4), x -> x.thread(0), RugPunch::cut, x -> x.sew(12),
+            x -> x.jump(12), RugPunch::turnLeft, RugPunch::turnRight, RugPunch::ease, x -> x.setHeight(1),
+            x -> x.wind(0, 9999), x -> x.mend(38), x -> x.unpick(0), x -> x.shear(1), x -> x.store(1), x -> x.run(0),
+            RugPunch::runText,
+        };
+        for (int i = 0; i < actions.length; i++) {
+            RugPunch x = new RugPunch();
+            RugPunch twin = new RugPunch();
+            Check.busy(x);
+            Check.busy(twin);
+            actions[i].on(x);
+            CHECK.holds("action " + i + " changes the state", !Check.picture(x).equals(Check.picture(twin)));
+            CHECK.same("undo() of action " + i, x.undo(), twin.undo() + 1);
+            twin = new RugPunch();
+            Check.busy(twin);
+            CHECK.holds("undo() of action " + i + " brings all back", Check.everything(x).equals(Check.everything(twin)));
+        }
+        RugPunch x = new RugPunch();
+        x.jump(3);
+        x.place(3, 0);
+        CHECK.same("a place where the needle is counts", x.undo(), 1);
+        x.setHeight(4);
+        CHECK.same("a height that is there counts", x.undo(), 1);
+        x.fillPlan(0, 143, RugPunch.NONE);
+        CHECK.same("a plan that is there counts", x.undo(), 1);
+        x.setPlan(0, RugPunch.NONE);
+        CHECK.same("a colour that is there counts", x.undo(), 1);
+        x.shear(9);
+        CHECK.same("shearing nothing counts", x.undo(), 1);
+        Check.store(x, 0, "h4");
+        x.store(0);
+        CHECK.same("storing the same counts", x.undo(), 2);
+        x.run(0);
+        CHECK.same("a run that does nothing counts", x.undo(), 2);
+        x.thread(0);
+        x.ease();
+        x.jump(12);
+        x.jump(12);
+        x.undo();
+        CHECK.same("a jump of no cells counts", x.undo(), 4);
+        knotsComeBack();
+    }
+
+    private static void knotsComeBack() {
+        RugPunch x = new RugPunch();
+        Check.leave(x, 0, 7010);
+        x.jump(2);
+        CHECK.same("knots()", x.knots(), 1);
+        CHECK.same("drawnByRug(0)", x.drawnByRug(0), 1006);
+        x.save(0);
+        x.undo();
+        CHECK.same("knots() of before", x.knots(), 0);
+        CHECK.same("drawnByRug(0) of before", x.drawnByRug(0), 990);
+        CHECK.same("drawnByCone(0) of before", x.drawnByCone(0), 990);
+        x.restore(0);
+        CHECK.same("knots() of the save slot", x.knots(), 1);
+        CHECK.same("drawnByRug(0) of the save slot", x.drawnByRug(0), 1006);
     }
 
     private static void p51FourteenStates() {

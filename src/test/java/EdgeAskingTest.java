@@ -8,6 +8,7 @@ public final class EdgeAskingTest {
         p1NewObject();
         p2Append();
         p3ClearText();
+        p4FirstAndLastNumbers();
         p4EmptyAndShortTexts();
         p4SignsThatAreNotAllowed();
         p4FullText();
@@ -80,6 +81,16 @@ public final class EdgeAskingTest {
         CHECK.same("nothing of the text of before comes back", x.errorPosition(), 1);
     }
 
+    private static void p4FirstAndLastNumbers() {
+        String[] motifs = {
+            "s01", "s09", "s10", "s11", "s12", "j01", "j09", "j10", "j11", "j12", "c0", "c4", "h1", "h9", "m0", "m3",
+            "2(l)", "9(l)", "l", "r", "x", "e", "2(s10)", "9(h1j12)", "2(l)2(l)", "s012(s01)s01",
+        };
+        for (String text : motifs) {
+            CHECK.same("'" + text + "' is a motif", error(text), RugPunch.NONE);
+        }
+    }
+
     private static void p4EmptyAndShortTexts() {
         String[] tooSoon = {
             "", "s", "s0", "s1", "j", "j0", "j1", "c", "h", "m", "2", "9", "2(", "2(l", "2(s", "2(s0", "2(s01", "2(c",
@@ -94,7 +105,7 @@ public final class EdgeAskingTest {
         String[] before = {
             "s2", "s00", "s13", "s19", "j3", "j00", "j13", "c5", "c9", "h0", "m4", "m9", "0", "1", "22", "2l", "2)", "2()",
             "(", ")", "l)", "2(l))", "2(2", "2(l2", "2(9(", "l(", "2((", "sl", "s0l", "ca", "h(", "m)", " ", "l ", "S",
-            "s01 ", "2(l)(", "2(l)1", "s0)", "2(s)", "2(s0)", "2(c)", "s-1", "s1/", "s0:", "h:", "m/",
+            "s01 ", "2(l)(", "2(l)1", "s0)", "2(s)", "2(s0)", "2(c)", "s-1", "s1/", "s0:", "h:", "m/", ":", "/", "s0/", "s1:",
         };
         for (String text : before) {
             CHECK.same("the last sign of '" + text + "'", error(text), lastFault(text));

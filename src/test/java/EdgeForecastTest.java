@@ -20,6 +20,8 @@ public final class EdgeForecastTest {
         p60SimulateEnds();
         p60SimulateChangesNothing();
         p60EachTurn();
+        p60TurnsThatAreLeftOut();
+        p60SkippedModuloHundred();
         p61Save();
         p62Restore();
         p62RestoreForgets();
@@ -241,17 +243,26 @@ public final class EdgeForecastTest {
         CHECK.holds("and is skipped still", cell.isSkipped(10));
     }
 
-    private static void by(String text, int loops, int needle, int first, int last) {
+    private static void by(String text, int loops, int needle, int yarn, int last) {
         RugPunch x = new RugPunch();
         Check.write(x, text);
         CHECK.same("loopsBy() of " + text, x.loopsBy(), loops);
         CHECK.same("needleBy() of " + text, x.needleBy(), needle);
-        CHECK.same("yarnBy(0) of " + text, x.yarnBy(0), first);
+        CHECK.same("yarnBy(0) of " + text, x.yarnBy(0), yarn);
         CHECK.same("yarnBy(4) of " + text, x.yarnBy(4), last);
         CHECK.same("needle() is where it was", x.needle(), 0);
+        RugPunch first = new RugPunch();
+        Check.write(first, text);
+        CHECK.same("yarnBy(0) ahead of the others", first.yarnBy(0), yarn);
+        RugPunch second = new RugPunch();
+        Check.write(second, text);
+        CHECK.same("needleBy() ahead of the others", second.needleBy(), needle);
+        RugPunch third = new RugPunch();
+        Check.write(third, text);
+        CHECK.same("yarnBy(4) ahead of the others", third.yarnBy(4), last);
         x.runText();
         CHECK.same("needle() by " + text, x.needle(), needle);
-        CHECK.same("drawnByRug(0) by " + text, x.drawnByRug(0), first);
+        CHECK.same("drawnByRug(0) by " + text, x.drawnByRug(0), yarn);
         CHECK.same("drawnByRug(4) by " + text, x.drawnByRug(4), last);
     }
 
@@ -317,12 +328,16 @@ public final class EdgeForecastTest {
 
     /** A seed whose first turn has this kind and this q: the step of x is turned round. */
     private static long seedFor(int kind, int q) {
+        long next = (32L * q + kind) << 33;
+        return (next - 1442695040888963407L) * inverse();
+    }
+
+    private static long inverse() {
         long inverse = 1;
         for (int round = 0; round < 7; round++) {
             inverse *= 2 - 6364136223846793005L * inverse;
         }
-        long next = (32L * q + kind) << 33;
-        return (next - 1442695040888963407L) * inverse;
+        return inverse;
     }
 
     /** Each kind of turn, with each small q, as a first turn: what the same call gives. */
@@ -348,6 +363,65 @@ public final class EdgeForecastTest {
                 }
             }
         }
+    }
+
+    /** A seed whose first turn has the kind and the q, and whose turns behind it have the next kinds. */
+    private static long seedFor(int kind, int q, int... next) {
+        for (long low = 0; low < 10000000L; low++) {
+            long seed = seedFor(kind, q) + low * inverse();
+            long x = seed * 6364136223846793005L + 1442695040888963407L;
+            boolean fits = true;
+            for (int i = 0; i < next.length && fits; i++) {
+                x = x * 6364136223846793005L + 1442695040888963407L;
+                fits = (int) (x >>> 33) % 32 == next[i];
+            }
+            if (fits) {
+                return seed;
+            }
+        }
+        throw new IllegalStateException("there is no such seed");
+    }
+
+    private static void p60TurnsThatAreLeftOut() {
+        RugPunch x = new RugPunch();
+        Check.leave(x, 4, 19);
+        x.cut();
+        for (int colour = 0; colour < 5; colour++) {
+            CHECK.same("thread(" + colour + "), and a stitch", x.simulate(seedFor(23, colour, 0), 2) >= 1000 ? 1 : 0,
+                    colour < 4 ? 1 : 0);
+        }
+        RugPunch tight = new RugPunch();
+        tight.thread(0);
+        Check.tighten(tight, 16);
+        CHECK.same("a stitch, not eased, is skipped", tight.simulate(seedFor(0, 0), 1), 10);
+        CHECK.same("a stitch, eased, is not", tight.simulate(seedFor(27, 5, 0), 2) % 1000 / 10, 0);
+        CHECK.same("cut(), and no stitch", tight.simulate(seedFor(26, 4, 0), 2), 0);
+        CHECK.same("no cut(), and a stitch", tight.simulate(seedFor(26, 5, 0), 2) % 1000 / 10, 1);
+        RugPunch no = new RugPunch();
+        CHECK.same("ease() without a thread is left out", no.simulate(seedFor(27, 0, 18), 2), 3);
+        CHECK.same("cut() without a thread is left out", no.simulate(seedFor(26, 0, 18), 2), 3);
+        CHECK.same("sew without a thread is left out", no.simulate(seedFor(5, 0, 18), 2), 3);
+        CHECK.same("unpick of an empty cell is left out", no.simulate(seedFor(29, 0, 18), 2), 3);
+        CHECK.same("run without a motif is left out", no.simulate(seedFor(31, 0, 18), 2), 3);
+    }
+
+    private static void p60SkippedModuloHundred() {
+        RugPunch x = new RugPunch();
+        int skipped = 0;
+        Check.write(x, "lrlrlrs01");
+        for (int cell = 0; cell < 102; cell++) {
+            if (cell >= 98) {
+                CHECK.same("simulate with " + skipped + " skipped cells", x.simulate(seedFor(18, 0), 1),
+                        10 * (skipped % 100) + 3);
+            }
+            x.wind(0, 40);
+            x.place(cell, 0);
+            x.thread(0);
+            x.runText();
+            x.cut();
+            skipped++;
+        }
+        CHECK.same("skipped()", x.skipped(), 102);
     }
 
     private static void both(RugPunch x, Model model, String name, int... with) {
